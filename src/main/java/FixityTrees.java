@@ -512,9 +512,9 @@ public final class FixityTrees {
         }
     }
 
-    /** A stack of places in the row: none has more than the row has items. */
-    private static final class Stack {
-        private final int[] places = new int[MOST_ITEMS];
+    /** A stack of places or counts: none has more than the row has items. */
+    private static final class IntStack {
+        private final int[] values = new int[MOST_ITEMS];
         private int size;
 
         void clear() {
@@ -525,15 +525,15 @@ public final class FixityTrees {
             return size;
         }
 
-        void push(int place) {
+        void push(int value) {
             if (size < MOST_ITEMS) {
-                places[size] = place;
+                values[size] = value;
                 size++;
             }
         }
 
         int top() {
-            return size > 0 ? places[size - 1] : NONE;
+            return size > 0 ? values[size - 1] : NONE;
         }
 
         int pop() {
@@ -541,7 +541,7 @@ public final class FixityTrees {
                 return NONE;
             }
             size--;
-            return places[size];
+            return values[size];
         }
     }
 
@@ -643,11 +643,11 @@ public final class FixityTrees {
 
         private final Row row;
         private final Fixities fixities;
-        private final Stack waiting = new Stack();
+        private final IntStack waiting = new IntStack();
         // Of each group that is open, the whole row too: how many waited when it began.
-        private final Stack waitingBefore = new Stack();
-        private final Stack ready = new Stack();
-        private final Stack unnumbered = new Stack();
+        private final IntStack waitingBefore = new IntStack();
+        private final IntStack ready = new IntStack();
+        private final IntStack unnumbered = new IntStack();
         private final int[] firsts = new int[MOST_ITEMS];
         private final int[] seconds = new int[MOST_ITEMS];
         private final int[] sizes = new int[MOST_ITEMS];
@@ -983,9 +983,9 @@ public final class FixityTrees {
             return kind == OPERATOR || kind == LEFT_SECTION;
         }
 
-        private void setBrackets(int k, boolean has) {
+        private void setBrackets(int k, boolean needed) {
             if (isNode(k)) {
-                bracketed[k] = has;
+                bracketed[k] = needed;
             }
         }
 
