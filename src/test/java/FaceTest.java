@@ -30,6 +30,7 @@ public final class FaceTest {
     };
 
     public static void main(String[] args) {
+        Due.about("The public face", "public final class FixityTrees");
         Class<?> face = FixityTrees.class;
         Set<String> seen = new TreeSet<>();
         for (Constructor<?> c : face.getDeclaredConstructors()) {
@@ -43,11 +44,18 @@ public final class FaceTest {
         }
         Due.text("the face", String.join("\n", seen), String.join("\n", new TreeSet<>(Set.of(FACE))));
         Due.is("public and final", () -> face.getModifiers(), Modifier.PUBLIC | Modifier.FINAL);
+        Due.about("The public face", "public static final int NONE = -1;");
         Due.is("NONE", () -> FixityTrees.NONE, -1);
+        Due.about("LANGUAGE.md, rule 1", "the classes inside it, which are private or package-visible and static");
         for (Class<?> inner : face.getDeclaredClasses()) {
             Due.is(inner + " is static", () -> Modifier.isStatic(inner.getModifiers()) ? 1 : 0, 1);
+            Due.is(inner + " is hidden", () -> isHidden(inner.getModifiers()) ? 1 : 0, 1);
         }
         Due.end();
+    }
+
+    private static boolean isHidden(int modifiers) {
+        return !Modifier.isPublic(modifiers) && !Modifier.isProtected(modifiers);
     }
 
     private static void addIfSeen(Set<String> seen, int modifiers, boolean synthetic, String text) {

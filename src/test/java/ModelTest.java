@@ -1,20 +1,24 @@
 import java.util.Random;
 
-/** All promises: long runs of calls, the same on FixityTrees and on the model, which must answer alike. */
+/**
+ * All promises: runs of up to 512 calls, the same on FixityTrees and on the model, which must answer
+ * alike; then all that can be read is read, on new objects after the same calls.
+ */
 public final class ModelTest {
-    private static final int CALLS = 512;
-    private static final int RUNS = 6000;
+    private static final int RUNS = 16000;
+    // A run that is to be read in full leaves calls for that.
+    private static final int MOST_BEFORE_READING = 400;
 
     private interface Call {
-        long run();
+        long on(Model model);
     }
 
     private final Random random;
     private final int style;
-    private final FixityTrees x = new FixityTrees();
+    private final int most;
+    private final Run x = new Run();
     private final Model model = new Model();
     private final StringBuilder said = new StringBuilder();
-    private int calls = 0;
     private int open = 0;
     private boolean due = true;
     private boolean alike = true;
@@ -27,6 +31,7 @@ public final class ModelTest {
     private ModelTest(long seed) {
         random = new Random(seed);
         style = (int) (seed % 3);
+        most = any(4) == 0 ? Run.MOST_CALLS : 100 + any(MOST_BEFORE_READING - 100);
     }
 
     public static void main(String[] args) {
@@ -39,37 +44,50 @@ public final class ModelTest {
         System.out.println(RUNS + " runs: " + trees + " trees, " + clashes + " clashes, " + taken + " taken, "
                 + sames + " the same; " + wrong + " runs are not as due");
         // Runs that never come to these would test nothing.
-        if (wrong != 0 || trees < RUNS || clashes < RUNS || taken < RUNS || sames < RUNS) {
+        if (wrong != 0 || trees < RUNS || clashes < RUNS / 2 || taken < RUNS || sames < RUNS) {
             System.exit(1);
         }
     }
 
     private boolean run() {
         setUp();
-        while (alike && calls < CALLS) {
+        while (goesOn()) {
             step();
+        }
+        if (x.made() <= MOST_BEFORE_READING) {
+            readAll();
         }
         return alike;
     }
 
-    private static String answer(Call call) {
+    private boolean goesOn() {
+        return alike && x.made() < most;
+    }
+
+    private String due(Call models) {
         try {
-            return "" + call.run();
+            return "" + models.on(model);
         } catch (RuntimeException e) {
             return e.getClass().getName();
         }
     }
 
-    private long both(String text, Call ours, Call models) {
-        calls++;
+    /** The answer that both gave, and the least number of all for what was thrown. */
+    private long both(String text, Run.Call ours, Call models) {
+        if (!goesOn()) {
+            return Long.MIN_VALUE;
+        }
         said.append(' ').append(text);
-        String got = answer(ours);
-        String want = answer(models);
+        String got = x.answer(ours);
+        compare("", got, due(models));
+        return got.startsWith("java") ? Long.MIN_VALUE : Long.parseLong(got);
+    }
+
+    private void compare(String read, String got, String want) {
         if (alike && !got.equals(want)) {
             alike = false;
-            System.out.println(said + " answered " + got + ", due is " + want);
+            System.out.println("All promises:" + said + read + " answered " + got + ", due is " + want);
         }
-        return got.startsWith("java") ? Long.MIN_VALUE : Long.parseLong(got);
     }
 
     private int any(int bound) {
@@ -97,11 +115,11 @@ public final class ModelTest {
     }
 
     private void fixity(int scope, int operator, int side, int rank) {
-        both("fixity(" + scope + "," + operator + "," + side + "," + rank + ")", () -> {
-            x.fixity(scope, operator, side, rank);
+        both("fixity(" + scope + "," + operator + "," + side + "," + rank + ")", t -> {
+            t.fixity(scope, operator, side, rank);
             return 0;
-        }, () -> {
-            model.fixity(scope, operator, side, rank);
+        }, m -> {
+            m.fixity(scope, operator, side, rank);
             return 0;
         });
     }
@@ -121,7 +139,7 @@ public final class ModelTest {
 
     private void newScope() {
         int outer = anyScope();
-        both("scope(" + outer + ")", () -> x.scope(outer), () -> model.scope(outer));
+        both("scope(" + outer + ")", t -> t.scope(outer), m -> m.scope(outer));
     }
 
     private void step() {
@@ -138,7 +156,7 @@ public final class ModelTest {
         int operator = anyOperator();
         int what = any(5) - 1;
         both("looked(" + scope + "," + operator + "," + what + ")",
-                () -> x.looked(scope, operator, what), () -> model.looked(scope, operator, what));
+                t -> t.looked(scope, operator, what), m -> m.looked(scope, operator, what));
     }
 
     /** Calls at places where they are mostly refused. */
@@ -154,25 +172,25 @@ public final class ModelTest {
         switch (kind) {
             case 0:
                 long number = any(4) == 0 ? random.nextLong() : any(5);
-                both("operand(" + number + ")", () -> x.operand(number), () -> model.operand(number));
+                both("operand(" + number + ")", t -> t.operand(number), m -> m.operand(number));
                 break;
             case 1:
                 int operator = anyOperator();
-                both("operator(" + operator + ")", () -> x.operator(operator), () -> model.operator(operator));
+                both("operator(" + operator + ")", t -> t.operator(operator), m -> m.operator(operator));
                 break;
-            case 2: both("open()", () -> x.open(), () -> model.open()); break;
-            default: both("close()", () -> x.close(), () -> model.close()); break;
+            case 2: both("open()", t -> t.open(), m -> m.open()); break;
+            default: both("close()", t -> t.close(), m -> m.close()); break;
         }
         due = model.told(2) == 1;
         open = model.told(1);
     }
 
     private void begin(boolean pattern) {
-        both("begin(" + pattern + ")", () -> {
-            x.begin(pattern);
+        both("begin(" + pattern + ")", t -> {
+            t.begin(pattern);
             return 0;
-        }, () -> {
-            model.begin(pattern);
+        }, m -> {
+            m.begin(pattern);
             return 0;
         });
         due = true;
@@ -183,7 +201,7 @@ public final class ModelTest {
         if (any(5) != 0) {
             begin(any(4) == 0);
         }
-        int length = any(12) == 0 ? 150 + any(80) : any(3) == 0 ? any(60) : any(14);
+        int length = any(12) == 0 ? 150 + any(80) : any(4) == 0 ? any(60) : any(14);
         int nesting = any(3) == 0 ? 60 : 10;
         for (int i = 0; i < length; i++) {
             nextItem(nesting);
@@ -192,9 +210,9 @@ public final class ModelTest {
             item(due && any(3) != 0 ? 0 : 3);
         }
         resolve();
-        read();
+        readSome();
         for (int i = any(4); i > 0; i--) {
-            writeAndRead();
+            writeAndTake();
         }
     }
 
@@ -211,7 +229,7 @@ public final class ModelTest {
 
     private void resolve() {
         int scope = anyScope();
-        long nodes = both("resolve(" + scope + ")", () -> x.resolve(scope), () -> model.resolve(scope));
+        long nodes = both("resolve(" + scope + ")", t -> t.resolve(scope), m -> m.resolve(scope));
         if (nodes > 1) {
             trees++;
         } else if (nodes == Model.NONE) {
@@ -221,49 +239,63 @@ public final class ModelTest {
 
     private void same() {
         int scope = anyScope();
-        long same = both("same(" + scope + ")", () -> x.same(scope) ? 1 : 0, () -> model.same(scope) ? 1 : 0);
+        long same = both("same(" + scope + ")", t -> t.same(scope) ? 1 : 0, m -> m.same(scope) ? 1 : 0);
         sames += same == 1 ? 1 : 0;
     }
 
-    // What only reads is left out of the count of calls: it could not spoil what comes behind.
-    private void read() {
-        int before = calls;
+    private void writeAndTake() {
+        int scope = anyScope();
+        both("write(" + scope + ")", t -> t.write(scope), m -> m.write(scope));
+        readSome();
+        same();
+        if (any(2) == 0) {
+            long items = both("take()", t -> t.take(), m -> m.take());
+            taken += items > 1 ? 1 : 0;
+            due = model.told(2) == 1;
+            open = model.told(1);
+            same();
+        }
+    }
+
+    // Reading in between shows that it changes nothing.
+    private void readSome() {
+        for (int i = any(4); i > 0; i--) {
+            int told = any(9) - 1;
+            both("told(" + told + ")", t -> t.told(told), m -> m.told(told));
+            int clash = any(5) - 1;
+            both("clash(" + clash + ")", t -> t.clash(clash), m -> m.clash(clash));
+            int k = any(model.told(4) + 2) - 1;
+            int what = any(7) - 1;
+            both("node(" + k + "," + what + ")", t -> t.node(k, what), m -> m.node(k, what));
+            both("number(" + k + ")", t -> t.number(k), m -> m.number(k));
+            int item = any(2 * k + 4) - 1;
+            int of = any(5) - 1;
+            both("written(" + item + "," + of + ")", t -> t.written(item, of), m -> m.written(item, of));
+        }
+    }
+
+    private void readAll() {
+        Reader reader = new Reader(x);
         for (int what = -1; what < 8; what++) {
             int w = what;
-            both("told(" + w + ")", () -> x.told(w), () -> model.told(w));
-            both("clash(" + w + ")", () -> x.clash(w), () -> model.clash(w));
+            compare(" told(" + w + ")", reader.answer(t -> t.told(w)), due(m -> m.told(w)));
+            compare(" clash(" + w + ")", reader.answer(t -> t.clash(w)), due(m -> m.clash(w)));
         }
         for (int k = -1; k <= model.told(4); k++) {
             int node = k;
             for (int what = -1; what < 6; what++) {
                 int w = what;
-                both("node(" + node + "," + w + ")", () -> x.node(node, w), () -> model.node(node, w));
+                compare(" node(" + k + "," + w + ")", reader.answer(t -> t.node(node, w)), due(m -> m.node(node, w)));
             }
-            both("number(" + node + ")", () -> x.number(node), () -> model.number(node));
+            compare(" number(" + k + ")", reader.answer(t -> t.number(node)), due(m -> m.number(node)));
         }
-        calls = before;
-    }
-
-    private void writeAndRead() {
-        int scope = anyScope();
-        long size = both("write(" + scope + ")", () -> x.write(scope), () -> model.write(scope));
-        int before = calls;
+        int size = reader.writtenSize();
         for (int i = -1; i <= size; i++) {
             int item = i;
             for (int what = -1; what < 4; what++) {
                 int w = what;
-                both("written(" + item + "," + w + ")", () -> x.written(item, w), () -> model.written(item, w));
+                compare(" written(" + i + "," + w + ")", reader.answer(t -> t.written(item, w)), due(m -> m.written(item, w)));
             }
-        }
-        calls = before;
-        same();
-        if (any(2) == 0) {
-            long items = both("take()", () -> x.take(), () -> model.take());
-            taken += items > 1 ? 1 : 0;
-            due = model.told(2) == 1;
-            open = model.told(1);
-            read();
-            same();
         }
     }
 }

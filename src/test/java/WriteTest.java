@@ -1,26 +1,38 @@
-/** Promises 14 to 17: write, written, take, same. */
+/** Promises 14 and 15, and what the terms say of what FITS: write, written. */
 public final class WriteTest {
+    private static final int NONE = FixityTrees.NONE;
+    private static final int LEAST = Integer.MIN_VALUE;
+    private static final int MOST = Integer.MAX_VALUE;
+    private static final int MINUS_RANK = 6;
     private static final String FIXITIES = "aL6 bL7 rR5 sR8 qR6 nN4 mN7 lL3 pR3";
 
     public static void main(String[] args) {
-        leastBrackets();
-        bracketsByAnotherScope();
-        writtenItems();
-        writeRefuses();
-        writtenRefuses();
-        writtenStays();
-        taken();
-        takenIsNoPattern();
-        takeRefuses();
-        sameTrees();
-        sameChangesNothing();
-        sameInPatterns();
-        sameRefuses();
+        eachOperatorBelowAnOperator();
+        eachOperatorBelowANegation();
+        eachNegationBelowAnOperator();
+        eachChildOfARightSection();
+        eachChildOfALeftSection();
+        noBracketsRoundTheRoot();
+        sectionsHaveTheirs();
+        childrenThatStoodInBrackets();
+        writeByTheScope();
+        writeOneItem();
+        writeTheMost();
+        writeByNoScope();
+        writeWithoutATree();
+        writeLeavesTheTreeAndTheRow();
+
+        writtenItemsOfEachKind();
+        writtenNodesOfBrackets();
+        writtenIsTheLatest();
+        writtenIsNone();
+        writtenOfNothing();
+        writtenOfNoSuchWhat();
         Due.end();
     }
 
-    private static FixityTrees resolved(String items) {
-        FixityTrees x = Texts.with(FIXITIES);
+    private static Run resolved(String items) {
+        Run x = Texts.with(FIXITIES);
         Texts.row(x, items);
         x.resolve(0);
         return x;
@@ -31,81 +43,225 @@ public final class WriteTest {
         return written.replaceAll("#[0-9]+", "#");
     }
 
-    private static void written(String items, String due) {
-        FixityTrees x = resolved(items);
-        int size = due.split(" ").length;
-        Due.is("write " + items, () -> x.write(0), size);
-        Due.text("written " + items, shape(Texts.written(x)), due);
-        Due.is("take " + items, () -> x.take(), size);
-        Due.is("same " + items, () -> x.same(0) ? 1 : 0, 1);
+    private static void written(Run x, String name, String due) {
+        Due.is("write(0) of " + name, () -> x.write(0), Texts.size(due));
+        Due.text("written of " + name, shape(Texts.written(x)), due);
+        Due.is("take() of " + name, () -> x.take(), Texts.size(due));
+        Due.is("same(0) of " + name, () -> x.same(0), 1);
     }
 
-    private static void leastBrackets() {
-        written("1", "#");
-        written("( ( 1 ) )", "#");
-        written("( 1 a 2 )", "# a #");
-        written("( 1 b 2 ) a ( 3 b 4 )", "# b # a # b #");
-        written("( 1 a 2 ) b 3", "( # a # ) b #");
-        written("1 a ( 2 a 3 )", "# a ( # a # )");
-        written("( 1 a 2 ) a 3", "# a # a #");
-        written("( 1 r 2 ) r 3", "( # r # ) r #");
-        written("1 r ( 2 r 3 )", "# r # r #");
-        written("1 n ( 2 n 3 )", "# n ( # n # )");
-        written("( 1 n 2 ) n 3", "( # n # ) n #");
-        written("1 l ( 2 p 3 )", "# l ( # p # )");
-        written("( 1 l 2 ) p 3", "( # l # ) p #");
-        written("( - 1 ) a 2", "- # a #");
-        written("( - 1 ) b 2", "( - # ) b #");
-        written("( - 1 ) q 2", "( - # ) q #");
-        written("1 a ( - 2 )", "# a ( - # )");
-        written("1 r ( - 2 )", "# r - #");
-        written("1 q ( - 2 )", "# q ( - # )");
+    private static void written(String items, String due) {
+        written(resolved(items), items, due);
+    }
+
+    // Promise 14
+
+    /** Resolves the items by operators w and o, and asks what is written of their tree. */
+    private static void pair(int side, int rank, int otherSide, int otherRank, String items, String due) {
+        Run x = Pairs.with(side, rank, otherSide, otherRank);
+        Texts.row(x, items);
+        x.resolve(0);
+        written(x, items + ", w " + Pairs.name(side, rank) + ", o " + Pairs.name(otherSide, otherRank), due);
+    }
+
+    private static void eachOperatorBelowAnOperator() {
+        Due.about("Terms", "FITS: its RANK is above that of its parent, or it is the same, both have one SIDE, that is LEFT, "
+                + "and the child is on the left, or it is RIGHT, and the child on the right");
+        Pairs.each((side, rank, otherSide, otherRank) -> {
+            boolean left = Pairs.fits(Pairs.LEFT, side, rank, otherSide, otherRank);
+            pair(side, rank, otherSide, otherRank, "( 1 w 2 ) o 3", left ? "# w # o #" : "( # w # ) o #");
+            boolean right = Pairs.fits(Pairs.RIGHT, side, rank, otherSide, otherRank);
+            pair(side, rank, otherSide, otherRank, "1 o ( 2 w 3 )", right ? "# o # w #" : "# o ( # w # )");
+        });
+    }
+
+    private static void eachOperatorBelowANegation() {
+        Due.about("Terms", "(the one of a NEGATION, of a RIGHT SECTION is on the right");
+        for (int side = 0; side < Pairs.SIDES; side++) {
+            for (int rank = 0; rank < Pairs.RANKS; rank++) {
+                boolean fits = Pairs.fits(Pairs.RIGHT, side, rank, Pairs.LEFT, MINUS_RANK);
+                pair(side, rank, 0, 0, "- ( 1 w 2 )", fits ? "- # w #" : "- ( # w # )");
+            }
+        }
         written("- ( - 1 )", "- ( - # )");
-        written("- ( 1 a 2 )", "- ( # a # )");
-        written("- ( 1 b 2 )", "- # b #");
+        written("- ( 1 - 2 )", "- ( # - # )");
+    }
+
+    private static void eachNegationBelowAnOperator() {
+        Due.about("Terms", "NEGATION with one (its RANK 6, SIDE LEFT)");
+        for (int side = 0; side < Pairs.SIDES; side++) {
+            for (int rank = 0; rank < Pairs.RANKS; rank++) {
+                boolean left = Pairs.fits(Pairs.LEFT, Pairs.LEFT, MINUS_RANK, side, rank);
+                pair(0, 0, side, rank, "( - 1 ) o 2", left ? "- # o #" : "( - # ) o #");
+                boolean right = Pairs.fits(Pairs.RIGHT, Pairs.LEFT, MINUS_RANK, side, rank);
+                pair(0, 0, side, rank, "1 o ( - 2 )", right ? "# o - #" : "# o ( - # )");
+            }
+        }
+        written("( - 1 ) - 2", "- # - #");
+        written("1 - ( - 2 )", "# - ( - # )");
+    }
+
+    private static void eachChildOfARightSection() {
+        Due.about("Terms", "(the one of a NEGATION, of a RIGHT SECTION is on the right");
+        Pairs.each((side, rank, otherSide, otherRank) -> {
+            boolean fits = Pairs.fits(Pairs.RIGHT, side, rank, otherSide, otherRank);
+            pair(side, rank, otherSide, otherRank, "( o ( 1 w 2 ) )", fits ? "( o # w # )" : "( o ( # w # ) )");
+        });
+        for (int side = 0; side < Pairs.SIDES; side++) {
+            for (int rank = 0; rank < Pairs.RANKS; rank++) {
+                boolean fits = Pairs.fits(Pairs.RIGHT, Pairs.LEFT, MINUS_RANK, side, rank);
+                pair(0, 0, side, rank, "( o ( - 1 ) )", fits ? "( o - # )" : "( o ( - # ) )");
+            }
+        }
+    }
+
+    private static void eachChildOfALeftSection() {
+        Due.about("Terms", "of a LEFT SECTION on the left)");
+        Pairs.each((side, rank, otherSide, otherRank) -> {
+            boolean fits = Pairs.fits(Pairs.LEFT, side, rank, otherSide, otherRank);
+            pair(side, rank, otherSide, otherRank, "( ( 1 w 2 ) o )", fits ? "( # w # o )" : "( ( # w # ) o )");
+        });
+        for (int side = 0; side < Pairs.SIDES; side++) {
+            for (int rank = 0; rank < Pairs.RANKS; rank++) {
+                boolean fits = Pairs.fits(Pairs.LEFT, Pairs.LEFT, MINUS_RANK, side, rank);
+                pair(0, 0, side, rank, "( ( - 1 ) o )", fits ? "( - # o )" : "( ( - # ) o )");
+            }
+        }
+    }
+
+    private static void noBracketsRoundTheRoot() {
+        Due.about("Promise 14", "each child that does not FIT by that scope, and no other one, has brackets of its own");
+        written("( ( 1 ) )", "#");
+        written("( 1 n 2 )", "# n #");
+        written("( - 1 )", "- #");
+        written("( ( 1 l 2 ) )", "# l #");
+        written("( ( 1 ) a ( 2 ) )", "# a #");
+        written("- ( 1 )", "- #");
+    }
+
+    private static void sectionsHaveTheirs() {
+        Due.about("Promise 14", "(sections have theirs)");
         written("( ( a 1 ) )", "( a # )");
         written("( ( 1 a ) )", "( # a )");
-        written("( a ( 1 b 2 ) )", "( a # b # )");
-        written("( a ( 1 a 2 ) )", "( a ( # a # ) )");
-        written("( r ( 1 r 2 ) )", "( r # r # )");
-        written("( ( 1 a 2 ) a )", "( # a # a )");
-        written("( ( 1 a 2 ) b )", "( ( # a # ) b )");
-        written("( ( 1 r 2 ) r )", "( ( # r # ) r )");
-        written("( ( - 1 ) a )", "( - # a )");
-        written("( ( - 1 ) b )", "( ( - # ) b )");
-        written("( n ( - 1 ) )", "( n - # )");
-        written("( a ( - 1 ) )", "( a ( - # ) )");
-        written("( ( 1 a ) b ( c 2 ) )", "( # a ) b ( c # )");
         written("- ( 1 a )", "- ( # a )");
+        written("- ( a 1 )", "- ( a # )");
+        written("( ( 1 a ) b ( c 2 ) )", "( # a ) b ( c # )");
         written("( ( 1 a ) a )", "( ( # a ) a )");
+        written("( a ( a 1 ) )", "( a ( a # ) )");
+        written("( a ( ( 1 a ) ) )", "( a ( # a ) )");
     }
 
-    private static void bracketsByAnotherScope() {
-        FixityTrees x = resolved("1 a 2 b 3");
+    private static void childrenThatStoodInBrackets() {
+        Due.about("Promise 14", "as a row in which each child that does not FIT by that scope, and no other one");
+        written("( 1 b 2 ) a ( 3 b 4 )", "# b # a # b #");
+        written("( ( 1 l 2 ) n 3 ) b ( 4 s ( 5 r 6 ) )", "( ( # l # ) n # ) b # s ( # r # )");
+        written("1 r ( - ( 2 b 3 ) )", "# r - # b #");
+        written("( n ( - ( 1 a 2 ) ) )", "( n - ( # a # ) )");
+        written("( 1 l 2 ) p ( 3 l 4 )", "( # l # ) p ( # l # )");
+    }
+
+    private static void writeByTheScope() {
+        Due.about("Promise 14", "The TREE is WRITTEN by a scope");
+        Run x = resolved("1 a 2 b 3");
         x.scope(0);
         Texts.tell(x, 1, "aR9");
         x.scope(0);
         Texts.tell(x, 2, "aL9 bL9");
         x.scope(2);
         Texts.tell(x, 3, "bR9 aR9");
-        Due.is("write(0)", () -> x.write(0), 5);
-        Due.text("by scope 0", Texts.written(x), "#1 a #3 b #4");
-        Due.is("write(1)", () -> x.write(1), 7);
-        Due.text("by scope 1", Texts.written(x), "#1 a ( #3 b #4 )");
-        Due.is("write(2)", () -> x.write(2), 7);
-        Due.text("by scope 2", Texts.written(x), "#1 a ( #3 b #4 )");
-        Due.is("write(3)", () -> x.write(3), 5);
-        Due.text("by scope 3", Texts.written(x), "#1 a #3 b #4");
+        for (int scope = 4; scope < 30; scope++) {
+            x.scope(scope == 4 ? 1 : scope - 1);
+        }
+        String bare = "#1 a #3 b #4";
+        String brackets = "#1 a ( #3 b #4 )";
+        int[] scopes = {0, 1, 2, 3, 29};
+        String[] due = {bare, brackets, brackets, bare, brackets};
+        for (int i = 0; i < scopes.length; i++) {
+            int scope = scopes[i];
+            Due.is("write(" + scope + ")", () -> x.write(scope), Texts.size(due[i]));
+            Due.text("by scope " + scope, Texts.written(x), due[i]);
+        }
     }
 
-    private static void writtenItems() {
-        FixityTrees x = resolved("( ( - 1 ) b 2 ) l ( 3 a )");
+    private static void writeOneItem() {
+        Due.about("Promise 14", "how many items");
+        Run x = resolved("( ( ( 1 ) ) )");
+        Due.is("write(0)", () -> x.write(0), 1);
+        Due.is("its kind", () -> x.written(0, 0), 0);
+        Due.is("its node", () -> x.written(0, 2), 0);
+        Due.outOfBounds(x, "written(1, 0)", () -> x.written(1, 0));
+    }
+
+    // By scope 0 none of 200 nodes needs brackets, by scope 1 each child but an operand does.
+    private static void writeTheMost() {
+        Due.about("Promise 14", "how many items");
+        Run x = Texts.with("rR5");
+        x.scope(0);
+        Texts.tell(x, 1, "rL9");
+        Texts.row(x, Texts.times(66, "- 1 r") + " - 1");
+        Due.is("resolve(0)", () -> x.resolve(0), 200);
+        Due.is("write(0)", () -> x.write(0), 200);
+        Due.is("write(1)", () -> x.write(1), 200 + 2 * (67 + 65));
+        Due.text("what was written", shape(Texts.written(x)),
+                Texts.times(65, "( - # ) r (") + " ( - # ) r ( - # ) " + Texts.times(65, ")"));
+        Due.is("the last item", () -> x.written(463, 0), 4);
+        Due.is("the last item's node", () -> x.written(463, 2), 3);
+        Due.outOfBounds(x, "one behind", () -> x.written(464, 0));
+        Run chain = Texts.with("rR5");
+        chain.scope(0);
+        Texts.tell(chain, 1, "rL5");
+        Texts.row(chain, Texts.times(99, "1 r") + " 1");
+        chain.resolve(0);
+        Due.is("a chain of 100 operands", () -> chain.write(1), 199 + 2 * 98);
+        Run deep = resolved(Texts.times(40, "- (") + " - 1 " + Texts.times(40, ")"));
+        Due.is("41 negations", () -> deep.write(0), 42 + 2 * 40);
+        Run sections = resolved(Texts.times(40, "(") + " 1 " + Texts.times(40, "a )"));
+        Due.is("40 sections", () -> sections.write(0), 41 + 2 * 40);
+    }
+
+    private static void writeByNoScope() {
+        Due.about("Promise 14", "IndexOutOfBounds");
+        Run x = resolved("( 1 l 2 ) b 3");
         x.write(0);
-        int n = FixityTrees.NONE;
-        int[][] due = {
-            {3, n, 2}, {2, 0, 2}, {0, n, 3}, {4, n, 2}, {1, 2, 1}, {0, n, 4}, {1, 12, 0},
-            {3, n, 5}, {0, n, 6}, {1, 1, 5}, {4, n, 5},
-        };
+        for (int scope : new int[] {-1, 1, 29, 30, LEAST, MOST}) {
+            Due.outOfBounds(x, "write(" + scope + ")", () -> x.write(scope));
+        }
+        Due.about("Terms", "Of several the first one in this order.");
+        Run fresh = new Run();
+        Due.outOfBounds(fresh, "write(1) of no tree", () -> fresh.write(1));
+        Due.outOfBounds(fresh, "write(-1) of no tree", () -> fresh.write(-1));
+    }
+
+    private static void writeWithoutATree() {
+        Due.about("Promise 14", "IllegalState: there is no TREE.");
+        Run fresh = new Run();
+        Due.badState(fresh, "write(0) at first", () -> fresh.write(0));
+        Run unresolved = Texts.with(FIXITIES);
+        Texts.row(unresolved, "1 a 2");
+        Due.badState(unresolved, "write(0) before resolve()", () -> unresolved.write(0));
+        Run clash = resolved("1 n 2");
+        clash.write(0);
+        Texts.row(clash, "1 n 2 n 3");
+        clash.resolve(0);
+        Due.badState(clash, "write(0) behind a clash", () -> clash.write(0));
+        Due.text("what was written stays", Texts.written(clash), "#1 n #2");
+    }
+
+    private static void writeLeavesTheTreeAndTheRow() {
+        Due.about("Promise 14", "The TREE is WRITTEN by a scope");
+        Run x = resolved("( 1 l 2 ) b 3");
+        Texts.row(x, "( 9");
+        x.write(0);
+        Due.text("the tree", Texts.tree(x), "[[1 l 2] b 3]");
+        Due.is("told(0)", () -> x.told(0), 2);
+        Due.is("told(1)", () -> x.told(1), 1);
+        Due.is("told(2)", () -> x.told(2), 0);
+        Due.is("the row goes on", () -> x.close(), 3);
+    }
+
+    // Promise 15
+
+    private static void items(Run x, int[]... due) {
         for (int i = 0; i < due.length; i++) {
             for (int what = 0; what < 3; what++) {
                 int item = i;
@@ -113,247 +269,97 @@ public final class WriteTest {
                 Due.is("written(" + i + ", " + what + ")", () -> x.written(item, w), due[i][what]);
             }
         }
-        Due.outOfBounds(x, "written(11, 0)", () -> x.written(11, 0));
-        Texts.row(x, "( b 1 )");
+        Due.outOfBounds(x, "written(" + due.length + ", 0)", () -> x.written(due.length, 0));
+    }
+
+    private static int[] item(int kind, int operator, int node) {
+        return new int[] {kind, operator, node};
+    }
+
+    private static void writtenItemsOfEachKind() {
+        Due.about("Promise 15", "0 OPERAND, 1 operator, 2 NEGATION, 3 OPEN, 4 CLOSE (what = 0); its operator (1; MINUS of a NEGATION)");
+        Run x = resolved("( ( - 1 ) b 2 ) l ( 3 - )");
+        x.write(0);
+        items(x, item(3, NONE, 2), item(2, 0, 2), item(0, NONE, 3), item(4, NONE, 2), item(1, 2, 1), item(0, NONE, 4),
+                item(1, 12, 0), item(3, NONE, 5), item(0, NONE, 6), item(1, 0, 5), item(4, NONE, 5));
+        Run last = new Run();
+        last.operand(1);
+        last.operator(40);
+        last.operand(2);
+        last.resolve(0);
+        last.write(0);
+        items(last, item(0, NONE, 1), item(1, 40, 0), item(0, NONE, 2));
+    }
+
+    private static void writtenNodesOfBrackets() {
+        Due.about("Promise 15", "the node that it is of, for brackets that one in them (2); NONE without");
+        Run right = resolved("( b 1 )");
+        right.write(0);
+        items(right, item(3, NONE, 0), item(1, 2, 0), item(0, NONE, 1), item(4, NONE, 0));
+        Run left = resolved("( 1 b )");
+        left.write(0);
+        items(left, item(3, NONE, 0), item(0, NONE, 1), item(1, 2, 0), item(4, NONE, 0));
+        Run two = resolved("( b ( 1 l 2 ) )");
+        two.write(0);
+        items(two, item(3, NONE, 0), item(1, 2, 0), item(3, NONE, 1), item(0, NONE, 2), item(1, 12, 1), item(0, NONE, 3),
+                item(4, NONE, 1), item(4, NONE, 0));
+    }
+
+    private static void writtenIsTheLatest() {
+        Due.about("Promise 15", "Item i of what was WRITTEN latest");
+        Run x = resolved("( 1 l 2 ) b 3");
+        x.write(0);
+        String before = Texts.written(x);
+        Texts.row(x, "- 5");
+        x.resolve(0);
+        Due.text("behind another resolve()", Texts.written(x), before);
+        Texts.row(x, "1 n 2 n 3");
+        x.resolve(0);
+        Due.text("behind a clash", Texts.written(x), before);
+        x.take();
+        Due.text("behind take()", Texts.written(x), before);
+        x.begin(true);
+        Due.text("behind begin()", Texts.written(x), before);
+        Texts.row(x, "4");
         x.resolve(0);
         x.write(0);
-        int[][] section = {{3, n, 0}, {1, 2, 0}, {0, n, 1}, {4, n, 0}};
-        for (int i = 0; i < section.length; i++) {
-            for (int what = 0; what < 3; what++) {
-                int item = i;
-                int w = what;
-                Due.is("section: written(" + i + ", " + what + ")", () -> x.written(item, w), section[i][what]);
+        items(x, item(0, NONE, 0));
+    }
+
+    private static void writtenIsNone() {
+        Due.about("Promise 15", "IndexOutOfBounds");
+        Run x = resolved("1 a 2");
+        x.write(0);
+        for (int i : new int[] {-1, 3, 4, 199, 200, 599, 600, LEAST, MOST}) {
+            Due.outOfBounds(x, "written(" + i + ", 0)", () -> x.written(i, 0));
+            Due.outOfBounds(x, "written(" + i + ", 2)", () -> x.written(i, 2));
+        }
+        Due.about("Terms", "Of several the first one in this order.");
+        Due.outOfBounds(x, "written(3, 3)", () -> x.written(3, 3));
+        Due.outOfBounds(x, "written(-1, -1)", () -> x.written(-1, -1));
+    }
+
+    private static void writtenOfNothing() {
+        Due.about("Promise 15", "IndexOutOfBounds");
+        Run fresh = new Run();
+        Run resolved = resolved("1 a 2");
+        for (Run x : new Run[] {fresh, resolved}) {
+            for (int i : new int[] {-1, 0, 1}) {
+                Due.outOfBounds(x, "written(" + i + ", 0)", () -> x.written(i, 0));
+                Due.outOfBounds(x, "written(" + i + ", 3)", () -> x.written(i, 3));
             }
         }
     }
 
-    private static void writeRefuses() {
-        FixityTrees x = new FixityTrees();
-        Due.badState(x, "write(0) at first", () -> x.write(0));
-        Due.outOfBounds(x, "write(1)", () -> x.write(1));
-        Due.outOfBounds(x, "write(-1)", () -> x.write(-1));
-        FixityTrees y = resolved("1 n 2");
-        y.write(0);
-        Due.outOfBounds(y, "write(1)", () -> y.write(1));
-        Texts.row(y, "1 n 2 n 3");
-        y.resolve(0);
-        Due.badState(y, "write(0) behind a clash", () -> y.write(0));
-        Due.text("what was written stays", Texts.written(y), "#1 n #2");
-    }
-
-    private static void writtenRefuses() {
-        FixityTrees x = resolved("1 a 2");
-        Due.outOfBounds(x, "written(0, 0) at first", () -> x.written(0, 0));
-        Due.outOfBounds(x, "written(0, 9) at first", () -> x.written(0, 9));
+    private static void writtenOfNoSuchWhat() {
+        Due.about("Promise 15", "IllegalArgument.");
+        Run x = resolved("- ( 1 a 2 )");
         x.write(0);
-        Due.outOfBounds(x, "written(3, 0)", () -> x.written(3, 0));
-        Due.outOfBounds(x, "written(-1, 0)", () -> x.written(-1, 0));
-        Due.outOfBounds(x, "written(-1, 3)", () -> x.written(-1, 3));
-        Due.badArgument(x, "written(2, 3)", () -> x.written(2, 3));
-        Due.badArgument(x, "written(0, -1)", () -> x.written(0, -1));
-        // A shorter one leaves nothing of the longer one before it.
-        Texts.row(x, "1");
-        x.resolve(0);
-        x.write(0);
-        Due.outOfBounds(x, "written(1, 0)", () -> x.written(1, 0));
-    }
-
-    private static void writtenStays() {
-        FixityTrees x = resolved("( 11 a 12 ) b 13");
-        x.write(0);
-        String written = Texts.written(x);
-        Texts.row(x, "- 5");
-        x.resolve(0);
-        Due.text("behind another resolve", Texts.written(x), written);
-        Texts.row(x, "1 n 2 n 3");
-        x.resolve(0);
-        Due.text("behind a clash", Texts.written(x), written);
-        Due.is("taken", () -> x.take(), 7);
-        Due.is("resolved again", () -> x.resolve(0), 5);
-        Due.text("with the numbers that it had", Texts.tree(x), "[[11 a 12] b 13]");
-        Due.text("behind take", Texts.written(x), written);
-    }
-
-    private static void taken() {
-        FixityTrees x = resolved("( 11 a ) b ( - 12 )");
-        x.write(0);
-        Texts.row(x, "( ( 9");
-        Due.is("take()", () -> x.take(), 9);
-        Due.is("told(0)", () -> x.told(0), 9);
-        Due.is("told(1)", () -> x.told(1), 0);
-        Due.is("told(2)", () -> x.told(2), 0);
-        Due.text("the tree stays", Texts.tree(x), "[[11 a _] b [- 12]]");
-        Due.badState(x, "no operand is due", () -> x.operand(1));
-        Due.badState(x, "no bracket is open", () -> x.close());
-        Due.is("an operator", () -> x.operator(12), 10);
-        Due.is("and an operand", () -> x.operand(13), 11);
-        Due.is("resolve(0)", () -> x.resolve(0), 7);
-        Due.text("the tree", Texts.tree(x), "[[[11 a _] b [- 12]] l 13]");
-        Due.is("place of the root", () -> x.node(0, 4), 9);
-        // A right section that was taken says nothing of the groups that come.
-        Texts.row(x, "( a 1 )");
-        x.resolve(0);
-        x.write(0);
-        x.take();
-        Due.is("a left section behind it", () -> Texts.items(x, "a ( 2 a )"), 9);
-        Due.is("it may be taken again", () -> x.take(), 4);
-    }
-
-    private static void takenIsNoPattern() {
-        FixityTrees x = Texts.with(FIXITIES);
-        Texts.pattern(x, "- 1 a 2");
-        x.resolve(0);
-        x.write(0);
-        x.begin(true);
-        x.take();
-        Due.is("a section may come", () -> Texts.items(x, "a ( b - ( 3 b ) )"), 13);
-    }
-
-    private static FixityTrees chain(String operator, int operands) {
-        FixityTrees x = new FixityTrees();
-        Texts.tell(x, 0, "aR5 bL5");
-        x.scope(0);
-        Texts.tell(x, 1, "aL5 bR5");
-        x.begin(false);
-        for (int i = 1; i < operands; i++) {
-            Texts.items(x, "1 " + operator);
+        for (int i = 0; i < 6; i++) {
+            int item = i;
+            for (int what : new int[] {-1, 3, 4, LEAST, MOST}) {
+                Due.badArgument(x, "written(" + i + ", " + what + ")", () -> x.written(item, what));
+            }
         }
-        Texts.items(x, "2");
-        x.resolve(0);
-        return x;
     }
-
-    private static void takeRefuses() {
-        FixityTrees x = resolved("1 a 2");
-        Due.badState(x, "nothing was written", () -> x.take());
-
-        // 42 operands: 41 operators, 40 of them in brackets one within the other.
-        FixityTrees forty = chain("a", 42);
-        Due.is("40 open", () -> forty.write(1), 83 + 80);
-        Due.is("40 open are taken", () -> forty.take(), 163);
-        Due.is("and are the same", () -> forty.same(1) ? 1 : 0, 1);
-        FixityTrees more = chain("a", 43);
-        Due.is("41 open", () -> more.write(1), 85 + 82);
-        Due.badState(more, "41 open", () -> more.take());
-        Due.is("the row stays", () -> more.told(0), 85);
-        more.write(0);
-        Due.is("a later one with none open", () -> more.take(), 85);
-        FixityTrees most = chain("b", 100);
-        Due.is("the longest chain", () -> most.write(1), 199 + 196);
-        Due.badState(most, "more than 200 items", () -> most.take());
-        Due.is("its last item", () -> most.written(394, 0), 0);
-        Due.outOfBounds(most, "one behind", () -> most.written(395, 0));
-        takeCountsItems();
-    }
-
-    // By scope 0 no "1 a 2" needs brackets as an operand of c, by scope 1 each does.
-    private static void takeCountsItems() {
-        FixityTrees x = new FixityTrees();
-        Texts.tell(x, 0, "aL6 cL5 dL1");
-        x.scope(0);
-        Texts.tell(x, 1, "aL4");
-        x.begin(false);
-        for (int i = 0; i < 33; i++) {
-            Texts.items(x, "1 a 2 c");
-        }
-        Texts.items(x, "3");
-        x.resolve(0);
-        Due.is("199 items", () -> x.write(1), 133 + 66);
-        Due.is("199 are taken", () -> x.take(), 199);
-        Texts.row(x, "-");
-        for (int i = 0; i < 33; i++) {
-            Texts.items(x, "1 a 2 c");
-        }
-        Texts.items(x, "3");
-        x.resolve(0);
-        Due.is("200 items", () -> x.write(1), 134 + 66);
-        Due.is("200 are taken", () -> x.take(), 200);
-        Due.is("and are the same", () -> x.same(1) ? 1 : 0, 1);
-        x.begin(false);
-        for (int i = 0; i < 33; i++) {
-            Texts.items(x, "1 a 2 c");
-        }
-        Texts.items(x, "3 d 4");
-        x.resolve(0);
-        Due.is("201 items", () -> x.write(1), 135 + 66);
-        Due.badState(x, "201 items", () -> x.take());
-    }
-
-    private static void same(String items, String others, boolean same) {
-        FixityTrees x = resolved(items);
-        Texts.row(x, others);
-        Due.is("same: " + items + " and " + others, () -> x.same(0) ? 1 : 0, same ? 1 : 0);
-    }
-
-    private static void sameTrees() {
-        same("1", "1", true);
-        same("1", "( 1 )", true);
-        same("1", "2", false);
-        same("1", "- 1", false);
-        same("1 a 2 b 3", "1 a ( 2 b 3 )", true);
-        same("1 a 2 b 3", "( 1 a 2 ) b 3", false);
-        same("1 a 2 a 3", "1 a ( 2 a 3 )", false);
-        same("1 a 2", "1 b 2", false);
-        same("1 a 2", "2 a 1", false);
-        same("1 a 2", "1 a 2 a 3", false);
-        same("( 1 a )", "( a 1 )", false);
-        same("( 1 a )", "( ( 1 a ) )", true);
-        same("( 1 - )", "( - 1 )", false);
-        same("( 1 - )", "- 1", false);
-        same("1 n 2", "1 n 2 n 3", false);
-        same("1 - 2", "1 r - 2", false);
-        same("( 1 a 2 ) a 3", "1 a 2 a 3", true);
-    }
-
-    private static void sameChangesNothing() {
-        FixityTrees x = resolved("1 r 2 r 3");
-        x.write(0);
-        Texts.row(x, "1 n 2 n 3");
-        String before = Texts.state(x);
-        Due.is("a row that clashes", () -> x.same(0) ? 1 : 0, 0);
-        Due.text("the state", Texts.state(x), before);
-        Texts.row(x, "1 r ( 2 r 3 )");
-        String then = Texts.state(x);
-        Due.is("the same with other places", () -> x.same(0) ? 1 : 0, 1);
-        Due.text("the state", Texts.state(x), then);
-        Texts.row(x, "1 l 2 r 3 a 4 b 5 s 6");
-        String last = Texts.state(x);
-        Due.is("a row where more wait", () -> x.same(0) ? 1 : 0, 0);
-        Due.text("the state", Texts.state(x), last);
-        x.scope(0);
-        Texts.tell(x, 1, "rL5");
-        Texts.row(x, "1 r 2 r 3");
-        Due.is("by scope 0", () -> x.same(0) ? 1 : 0, 1);
-        Due.is("by scope 1", () -> x.same(1) ? 1 : 0, 0);
-    }
-
-    private static void sameInPatterns() {
-        FixityTrees x = resolved("- 1 b 2");
-        Texts.pattern(x, "- 1 b 2");
-        Due.is("no pattern has this tree", () -> x.same(0) ? 1 : 0, 0);
-        Texts.row(x, "- 1 a 2");
-        x.resolve(0);
-        Texts.pattern(x, "( - 1 ) a 2");
-        Due.is("a pattern may have this one", () -> x.same(0) ? 1 : 0, 1);
-    }
-
-    private static void sameRefuses() {
-        FixityTrees x = Texts.with(FIXITIES);
-        Texts.row(x, "1");
-        Due.badState(x, "no tree", () -> x.same(0) ? 1 : 0);
-        x.resolve(0);
-        Due.outOfBounds(x, "no scope", () -> x.same(1) ? 1 : 0);
-        Due.outOfBounds(x, "no scope", () -> x.same(-1) ? 1 : 0);
-        Texts.items(x, "a");
-        Due.badState(x, "an operand is due", () -> x.same(0) ? 1 : 0);
-        Texts.items(x, "( 2");
-        Due.badState(x, "a bracket is open", () -> x.same(0) ? 1 : 0);
-        Due.outOfBounds(x, "no scope first", () -> x.same(1) ? 1 : 0);
-        x.begin(false);
-        Due.badState(x, "an empty row", () -> x.same(0) ? 1 : 0);
-        Texts.row(x, "1 n 2 n 3");
-        x.resolve(0);
-        Due.badState(x, "behind a clash", () -> x.same(0) ? 1 : 0);
-    }
-
 }

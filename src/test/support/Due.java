@@ -1,13 +1,24 @@
-/** Counts answers that are not the ones that are due; a call that throws must leave all as it was. */
+/**
+ * Counts answers that are not the ones that are due. Every answer is asked about a sentence of the
+ * document; a call that throws must leave all as it was.
+ */
 final class Due {
     interface Call {
         long run();
     }
 
+    private static String about = null;
+    private static int sentences = 0;
     private static int asked = 0;
     private static int wrong = 0;
 
     private Due() {
+    }
+
+    /** Where the document has the sentence that the next answers are about, and its words. */
+    static void about(String where, String sentence) {
+        about = where + ", \"" + sentence + "\"";
+        sentences++;
     }
 
     static void is(String call, Call asks, long want) {
@@ -29,42 +40,42 @@ final class Due {
         }
     }
 
-    static void outOfBounds(FixityTrees x, String call, Call asks) {
+    static void outOfBounds(Run x, String call, Call asks) {
         fails(x, call, asks, IndexOutOfBoundsException.class);
     }
 
-    static void badState(FixityTrees x, String call, Call asks) {
+    static void badState(Run x, String call, Call asks) {
         fails(x, call, asks, IllegalStateException.class);
     }
 
-    static void badArgument(FixityTrees x, String call, Call asks) {
+    static void badArgument(Run x, String call, Call asks) {
         fails(x, call, asks, IllegalArgumentException.class);
     }
 
     // The very class is due: what the machine throws by itself is of a class below one of these.
-    private static void fails(FixityTrees x, String call, Call asks, Class<?> want) {
+    private static void fails(Run x, String call, Call asks, Class<?> want) {
         asked++;
-        String before = Texts.state(x);
+        int made = x.made();
         try {
             long got = asks.run();
             tell(call + " answered " + got + ", due is " + want.getName());
         } catch (RuntimeException e) {
             if (e.getClass() != want) {
                 tell(call + " threw " + e + ", due is " + want.getName());
+            } else if (!State.of(x).equals(State.of(x, made))) {
+                tell(call + " threw and changed something");
             }
-        }
-        if (!Texts.state(x).equals(before)) {
-            tell(call + " threw and changed something");
         }
     }
 
     private static void tell(String line) {
         wrong++;
-        System.out.println(line);
+        System.out.println(about + ": " + line);
     }
 
     static void end() {
-        System.out.println(wrong == 0 ? asked + " answers are as due" : wrong + " answers are not as due");
+        System.out.println(asked + " answers about " + sentences + " sentences: "
+                + (wrong == 0 ? "all are as due" : wrong + " are not as due"));
         if (wrong != 0) {
             System.exit(1);
         }
