@@ -218,7 +218,7 @@ public final class ResolveTest {
                 x.resolve(0);
                 x.begin(pattern);
                 Texts.items(x, row);
-                Due.badState(x, "resolve(0) of \"" + row + "\"", () -> x.resolve(0));
+                Due.badState(x, "resolve(0) of " + Texts.quoted(row), () -> x.resolve(0));
             }
         }
         Run full = holding(Texts.times(100, "1 a"), NO_PATTERN);
@@ -231,7 +231,7 @@ public final class ResolveTest {
         Due.about("Promise 10", "or a bracket open");
         for (String row : new String[] {"( 1", "( ( 1 )", "1 a ( 2", "( a 1", "( 1 a ( 2 )", "( ( 1 a )"}) {
             Run x = holding(row, NO_PATTERN);
-            Due.badState(x, "resolve(0) of \"" + row + "\"", () -> x.resolve(0));
+            Due.badState(x, "resolve(0) of " + Texts.quoted(row), () -> x.resolve(0));
         }
         Run forty = holding(Texts.times(40, "(") + " 1", NO_PATTERN);
         for (int i = 0; i < 40; i++) {

@@ -53,15 +53,16 @@ public final class RowTest {
         for (String row : rows) {
             Run x = holding(pattern, row);
             int size = Texts.size(row) + 1;
-            Due.is(item + " behind \"" + row + "\"", () -> Texts.items(x, item), size);
-            Due.is("told(0) behind \"" + row + " " + item + "\"", () -> x.told(0), size);
+            String call = item + " behind " + Texts.quoted(row);
+            Due.is(call, () -> Texts.items(x, item), size);
+            Due.is("told(0) with " + call, () -> x.told(0), size);
         }
     }
 
     private static void mayNot(String item, boolean pattern, String... rows) {
         for (String row : rows) {
             Run x = holding(pattern, row);
-            Due.badState(x, item + " behind \"" + row + "\"", () -> Texts.items(x, item));
+            Due.badState(x, item + " behind " + Texts.quoted(row), () -> Texts.items(x, item));
         }
     }
 
@@ -148,7 +149,7 @@ public final class RowTest {
         may("1", NO_PATTERN, rows);
         may("1", PATTERN, "", "1 a", "1 -", "-", "1 a -", "(", "( 1 a", "( -", "( 1 ) a");
         for (String row : rows) {
-            Due.is("told(2) of \"" + row + "\"", () -> holding(NO_PATTERN, row).told(2), 1);
+            Due.is("told(2) of " + Texts.quoted(row), () -> holding(NO_PATTERN, row).told(2), 1);
         }
     }
 
@@ -159,7 +160,7 @@ public final class RowTest {
         mayNot("1", PATTERN, "1", "1 a 2", "- 1", "( 1", "( 1 )");
         Due.about("Terms", "else an operator is (behind an OPERAND or CLOSE)");
         for (String row : rows) {
-            Due.is("told(2) of \"" + row + "\"", () -> holding(NO_PATTERN, row).told(2), 0);
+            Due.is("told(2) of " + Texts.quoted(row), () -> holding(NO_PATTERN, row).told(2), 0);
         }
     }
 
@@ -189,6 +190,7 @@ public final class RowTest {
             Due.is("its node's kind", () -> x.node(0, 0), 1);
             Due.is("its node's operator", () -> x.node(0, 1), operator);
         }
+        Due.about("Terms", "0 is MINUS");
         Run x = new Run();
         Due.is("operator(0) at first", () -> x.operator(0), 1);
         told(x, 1, 0, 1);
@@ -255,9 +257,10 @@ public final class RowTest {
     // Promise 8
 
     private static void openWhereItMayCome() {
-        Due.about("Promise 8", "OPEN.");
+        Due.about("Terms", "Where an operand is DUE may come: OPERAND; OPEN");
         may("(", NO_PATTERN, "", "1 a", "1 -", "-", "- -", "1 a -", "(", "( a", "( -", "( a -", "( 1 a", "( a 1 b", "( 1 ) a");
         may("(", PATTERN, "", "1 a", "1 -", "(", "( 1 a", "( 1 ) a");
+        Due.about("Promise 8", "OPEN.");
         told(holding(NO_PATTERN, "("), 1, 1, 1);
         told(holding(NO_PATTERN, "1 a ("), 3, 1, 1);
     }

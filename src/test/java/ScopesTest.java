@@ -21,6 +21,8 @@ public final class ScopesTest {
         fixityOfMinus();
         fixityTwice();
         fixityOfNoSideOrRank();
+        sidesFromFirstToLast();
+        ranksFromFirstToLast();
         fixityLeavesTheTree();
 
         lookedAnswers();
@@ -137,6 +139,15 @@ public final class ScopesTest {
             int scope = i;
             Due.is("looked(" + i + ", 9, 2)", () -> x.looked(scope, 9, 2), tellers[i]);
         }
+        Run used = Texts.with("aL6");
+        Texts.row(used, "1 a 2");
+        used.resolve(0);
+        used.write(0);
+        Texts.row(used, "( 3");
+        used.scope(0);
+        Due.text("the tree behind scope(0)", Texts.tree(used), "[1 a 2]");
+        Due.text("what was written", Texts.written(used), "#1 a #2");
+        Due.is("the row goes on", () -> used.close(), 3);
     }
 
     private static void scopeWithinNoScope() {
@@ -169,6 +180,11 @@ public final class ScopesTest {
             Due.badState(x, "scope(29), the 31st", () -> x.scope(29));
             Due.is("told(3) still", () -> x.told(3), 30);
         }
+        Due.about("Terms", "SCOPES 0, 1, .. (30 at most): 0 is the outermost, each other one lies in one that was there.");
+        deep.fixity(0, 2, 1, 1);
+        wide.fixity(28, 2, 1, 1);
+        Due.is("the 30th lies in the 29th, and so on", () -> deep.looked(29, 2, 2), 0);
+        Due.is("the 30th lies in the first alone", () -> wide.looked(29, 2, 2), NONE);
         Due.about("Terms", "Of several the first one in this order.");
         Due.outOfBounds(deep, "scope(30), the 31st", () -> deep.scope(30));
         Due.outOfBounds(deep, "scope(-1), the 31st", () -> deep.scope(-1));
@@ -284,6 +300,36 @@ public final class ScopesTest {
         Due.badArgument(x, "side above, rank below", () -> x.fixity(0, 40, 3, -1));
         Due.is("then it may be told", () -> x.fixity(0, 40, 2, 9), 0);
         looked(x, 0, 40, 2, 9, 0);
+    }
+
+    private static void sidesFromFirstToLast() {
+        Due.about("Terms", "SIDES: 0 LEFT, 1 RIGHT, 2 NONE.");
+        String[] trees = {"[[1 a 2] a 3]", "[1 a [2 a 3]]", "none"};
+        for (int side = 0; side <= 2; side++) {
+            Run x = new Run();
+            x.fixity(0, 1, side, 4);
+            Texts.row(x, "1 a 2 a 3");
+            x.resolve(0);
+            Due.text("the tree of 1 a 2 a 3 by side " + side, Texts.tree(x), trees[side]);
+        }
+        Run x = new Run();
+        Due.badArgument(x, "side -1", () -> x.fixity(0, 1, -1, 4));
+        Due.badArgument(x, "side 3", () -> x.fixity(0, 1, 3, 4));
+    }
+
+    private static void ranksFromFirstToLast() {
+        Due.about("Terms", "RANKS 0 .. 9.");
+        for (int rank = 0; rank < 9; rank++) {
+            Run x = new Run();
+            x.fixity(0, 1, 0, rank);
+            x.fixity(0, 2, 0, rank + 1);
+            Texts.row(x, "1 a 2 b 3 a 4");
+            x.resolve(0);
+            Due.text("the tree by ranks " + rank + " and " + (rank + 1), Texts.tree(x), "[[1 a [2 b 3]] a 4]");
+        }
+        Run x = new Run();
+        Due.badArgument(x, "rank -1", () -> x.fixity(0, 1, 0, -1));
+        Due.badArgument(x, "rank 10", () -> x.fixity(0, 1, 0, 10));
     }
 
     private static void fixityLeavesTheTree() {

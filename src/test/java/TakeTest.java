@@ -59,6 +59,7 @@ public final class TakeTest {
         Due.is("resolve(0)", () -> x.resolve(0), 7);
         Due.text("the tree", Texts.tree(x), "[[[11 a _] b [- 12]] l 13]");
         Due.is("the place of its root", () -> x.node(0, 4), 9);
+        Due.about("Promise 16", "how many items");
         Run one = written("( 5 )");
         Due.is("take() of one item", () -> one.take(), 1);
         Due.is("resolve(0) of it", () -> one.resolve(0), 1);
@@ -288,9 +289,24 @@ public final class TakeTest {
         same("1 a 2", "1 a - 2", false);
         same("( 1 a )", "( 1 a 2 b )", false);
         same("( a 1 )", "( a 1 a 2 )", false);
-        Run x = resolved("- 1 b 2");
-        Texts.pattern(x, "- 1 b 2");
-        Due.is("a clash of a pattern", () -> x.same(0), 0);
+        // The TREE is what was done of the row before the clash.
+        for (String done : new String[] {"1", "2", "1 n 2"}) {
+            same(done, "1 n 2 n 3", false);
+        }
+        for (String done : new String[] {"1", "2", "- 2", "1 a 2"}) {
+            same(done, "1 a - 2", false);
+        }
+        for (String done : new String[] {"1", "2", "1 a 2", "( 2 b )"}) {
+            same(done, "( 1 a 2 b )", false);
+        }
+        for (String done : new String[] {"1", "2", "( a 1 )", "1 a 2"}) {
+            same(done, "( a 1 a 2 )", false);
+        }
+        for (String done : new String[] {"1", "- 1", "2", "1 b 2", "- 1 b 2"}) {
+            Run x = resolved(done);
+            Texts.pattern(x, "- 1 b 2");
+            Due.is("same: " + done + " and - 1 b 2 in a pattern", () -> x.same(0), 0);
+        }
     }
 
     private static void sameByTheScope() {
@@ -371,10 +387,10 @@ public final class TakeTest {
         for (String row : new String[] {"", "1 a", "-", "(", "( 1", "( ( 1 )", "( 1 a", "( a 1"}) {
             Run x = resolved("1 a 2");
             Texts.row(x, row);
-            Due.badState(x, "same(0) of \"" + row + "\"", () -> x.same(0));
+            Due.badState(x, "same(0) of " + Texts.quoted(row), () -> x.same(0));
             Run none = new Run();
             Texts.row(none, row);
-            Due.badState(none, "same(0) of \"" + row + "\" and no tree", () -> none.same(0));
+            Due.badState(none, "same(0) of " + Texts.quoted(row) + " and no tree", () -> none.same(0));
         }
         Run pattern = resolved("1 a 2");
         pattern.begin(true);

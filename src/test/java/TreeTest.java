@@ -76,6 +76,8 @@ public final class TreeTest {
         nodes("( 7 - )", node(3, 0, 1, NONE, 2), leaf(1));
         nodes("( a 7 )", node(4, 1, 1, NONE, 1), leaf(2));
         nodes("( - 7 )", node(2, 0, 1, NONE, 1), leaf(2));
+        Due.about("Promise 12", "its operator, MINUS of a NEGATION (1), its first child (2), second (3)");
+        nodes("- 7 b 8 a 9", node(1, 1, 1, 5, 4), node(2, 0, 2, NONE, 0), node(1, 2, 3, 4, 2), leaf(1), leaf(3), leaf(5));
         Run x = new Run();
         x.operand(7);
         x.operator(40);
@@ -285,7 +287,7 @@ public final class TreeTest {
     }
 
     private static void due(String items, int due) {
-        Due.is("told(2) of \"" + items + "\"", () -> holding(items).told(2), due);
+        Due.is("told(2) of " + Texts.quoted(items), () -> holding(items).told(2), due);
     }
 
     private static void toldDue() {
@@ -332,7 +334,7 @@ public final class TreeTest {
 
     private static void waiting(String items, int most) {
         Run x = resolved(items);
-        Due.is("told(5) of " + items, () -> x.told(5), most);
+        Due.is("told(5) of " + Texts.quoted(items), () -> x.told(5), most);
     }
 
     private static void toldWaiting() {
@@ -351,6 +353,14 @@ public final class TreeTest {
         waiting("( a 1 b 2 )", 2);
         waiting("1 l ( 2 a )", 2);
         waiting("1 r - 2 b 3", 3);
+        Due.about("Terms", "(the one that begins a RIGHT SECTION, too)");
+        waiting("( l 1 r 2 a 3 )", 3);
+        waiting("1 l ( l - 2 )", 3);
+        Due.about("Terms", "then all that wait in the group are done");
+        waiting("( 1 r 2 r 3 ) r ( 4 r 5 )", 2);
+        waiting("( l 1 r 2 ) r ( 3 r )", 2);
+        waiting("( - 1 ) l ( - 2 ) l ( - 3 )", 2);
+        Due.about("Promise 18", "how many waited at once, in all groups, at most (5)");
         waiting("- " + Texts.times(99, "1 s") + " 1", 100);
         waiting(Texts.times(66, "- 1 r") + " - 1", 67);
         waiting(Texts.times(40, "- (") + " 1 " + Texts.times(40, ")"), 40);
@@ -381,7 +391,7 @@ public final class TreeTest {
 
     private static void height(String items, int most) {
         Run x = resolved(items);
-        Due.is("told(6) of " + items, () -> x.told(6), most);
+        Due.is("told(6) of " + Texts.quoted(items), () -> x.told(6), most);
     }
 
     private static void toldHeight() {

@@ -12,6 +12,14 @@ final class Due {
     private static int asked = 0;
     private static int wrong = 0;
 
+    static {
+        // A call that throws while a test sets up ends it: then, too, it is to be told what it was about.
+        Thread.setDefaultUncaughtExceptionHandler((thread, e) -> {
+            System.out.println(about + ": the test broke off");
+            e.printStackTrace(System.out);
+        });
+    }
+
     private Due() {
     }
 

@@ -53,6 +53,13 @@ final class Texts {
         return words(items).length;
     }
 
+    /** The items in quotes, of many only the first and the last. */
+    static String quoted(String items) {
+        int end = items.length();
+        String text = end <= 80 ? items : items.substring(0, 20) + " .. " + items.substring(end - 20);
+        return "\"" + text + "\" (" + size(items) + " items)";
+    }
+
     private static String[] words(String text) {
         return text.trim().isEmpty() ? new String[0] : text.trim().split(" +");
     }
