@@ -34,6 +34,7 @@ public final class ResolveTest {
         bracketsCountAsOneOperand();
         sectionsAreOneOperand();
         firstClashEnds();
+        clashesLeaveNothing();
         patterns();
 
         clashAnswers();
@@ -446,6 +447,21 @@ public final class ResolveTest {
         clash("( a 1 a 2 n 3 n 4 )", 3, 1, 3);
         clash("( 1 n 2 n )", 1, 2, 4);
         clash(holding("- 1 b 2 a - 3", PATTERN), "- 1 b 2 a - 3", 4, 0, 2);
+    }
+
+    // What waited, and the groups that were open, when a clash came must not add up from call to call.
+    private static void clashesLeaveNothing() {
+        Due.about("Terms", "The first CLASH ends it: there is no tree.");
+        String before = Texts.times(20, "1 l (");
+        String behind = Texts.times(20, ")");
+        Run x = holding(before + " 1 r 2 a - 3 " + behind, NO_PATTERN);
+        for (int i = 0; i < 300; i++) {
+            Due.is("resolve(0)", () -> x.resolve(0), NONE);
+        }
+        clash(x, "a clash in 20 brackets for the 301st time", 2, 63, 64);
+        Texts.row(x, "( 1 r 2 a 3 ) b 4");
+        tree(x, "a row without a clash then", "[[1 r [2 a 3]] b 4]", 7);
+        Due.is("told(5)", () -> x.told(5), 2);
     }
 
     private static void patterns() {

@@ -349,6 +349,13 @@ public final class TakeTest {
             x.same(0);
             Due.text("the state behind same(0) of " + row, State.of(x), before);
         }
+        Run often = resolved("1 r 2 a 3");
+        Texts.row(often, Texts.times(20, "1 l (") + " 1 r 2 a - 3 " + Texts.times(20, ")"));
+        for (int i = 0; i < 300; i++) {
+            Due.is("same(0) of a row that clashes", () -> often.same(0), 0);
+        }
+        Texts.row(often, "( 1 ) r ( 2 a 3 )");
+        Due.is("same(0) of one that does not", () -> often.same(0), 1);
         Texts.row(x, "1 n 2 n 3");
         x.resolve(0);
         Texts.row(x, "1");
