@@ -539,6 +539,14 @@ public final class ResolveTest {
         Texts.row(y, "1 n 2 n 3");
         Due.is("same(0) of a row that clashes", () -> y.same(0), 0);
         Due.is("clash(0) behind it", () -> y.clash(0), NONE);
+        y.write(0);
+        y.resolve(0);
+        y.take();
+        Due.is("clash(0) behind take()", () -> y.clash(0), 1);
+        Due.is("clash(1) behind take()", () -> y.clash(1), 1);
+        Due.is("clash(2) behind take()", () -> y.clash(2), 3);
+        y.resolve(0);
+        Due.is("clash(0) behind resolve() of what was taken", () -> y.clash(0), NONE);
     }
 
     private static void clashOfNoSuchWhat() {

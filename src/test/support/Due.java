@@ -27,6 +27,9 @@ final class Due {
     static void about(String where, String sentence) {
         about = where + ", \"" + sentence + "\"";
         sentences++;
+        if (!Quotes.stands(where, sentence)) {
+            tell("no such sentence stands there");
+        }
     }
 
     static void is(String call, Call asks, long want) {
